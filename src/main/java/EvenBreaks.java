@@ -479,6 +479,9 @@ public final class EvenBreaks {
         }
 
         void putIn(int w, long word) {
+            if (count >= MOST_WORDS || !hasEnd(w)) {
+                return;
+            }
             for (int at = count; at > w; at--) {
                 words[at] = words[at - 1];
             }
@@ -487,6 +490,9 @@ public final class EvenBreaks {
         }
 
         void takeOut(int w) {
+            if (!hasWord(w)) {
+                return;
+            }
             for (int at = w + 1; at < count; at++) {
                 words[at - 1] = words[at];
             }
@@ -592,7 +598,7 @@ public final class EvenBreaks {
 
         int draw(int n) {
             state = (int) ((state * 1103515245L + 12345L) % 2147483648L);
-            return state / 65536 % n;
+            return n > 0 ? state / 65536 % n : 0;
         }
 
         long drawWord() {
@@ -650,7 +656,10 @@ public final class EvenBreaks {
         }
 
         int price(int i, int j) {
-            int slack = measure - widthOf(i, j);
+            return priceOf(measure - widthOf(i, j), j);
+        }
+
+        private int priceOf(int slack, int j) {
             if (slack < 0) {
                 return fee + tightPrice(-slack);
             }
@@ -692,8 +701,9 @@ public final class EvenBreaks {
             int least = Integer.MAX_VALUE;
             int from = NONE;
             for (int i = e - 1; i >= 0; i--) {
-                int alone = price(i, e);
-                if (alone > least && widthOf(i, e) > measure) {
+                int slack = measure - widthOf(i, e);
+                int alone = priceOf(slack, e);
+                if (slack < 0 && alone > least) {
                     break;
                 }
                 if (total[i] + alone <= least) {

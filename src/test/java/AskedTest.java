@@ -39,6 +39,8 @@ public final class AskedTest {
         x.rule(4);
         due.is("not even", x.first(0), ((1 * 41 + 2) * 41 + 3) * 41 + 4);
         due.is("odd", x.first(1), EvenBreaks.NONE);
+        due.is("told not even", x.told(8), 0);
+        due.is("told odd now", x.told(9), 1);
         EvenBreaks two = Due.typed("a b");
         due.is("two words are even", two.told(8), 1);
         due.is("and odd", two.told(9), 1);
@@ -146,6 +148,9 @@ public final class AskedTest {
         due.is("one line or two: the least", x.best(1, 200, 0), 6);
         due.is("at no cost", x.best(1, 200, 1), 0);
         due.is("one line", x.best(7, 200, 0), 13);
+        due.is("the last of them", x.best(7, 13, 0), 13);
+        due.is("the second of two", x.best(12, 13, 0), 13);
+        due.is("the first of two", x.best(13, 14, 0), 13);
         due.is("wide ones", x.best(20, 30, 0), 20);
         due.is("their total", x.best(20, 30, 1), 49);
         due.is("one measure", x.best(200, 200, 0), 200);

@@ -17,9 +17,10 @@ public final class DeedsTest {
 
     private static void change() {
         EvenBreaks x = Due.typed("one two three");
-        Due.feed(x, " will ");
-        due.is("change(1)", x.change(1), 6);
-        due.isText("changed", x, "one will three");
+        Due.feed(x, " willow ");
+        due.is("change(1)", x.change(1), 11);
+        due.isText("changed", x, "one willow three");
+        due.is("total of 6, 11 and 8 with gaps", x.told(6), 3 * 3);
         due.is("letters behind it", x.told(5), 0);
         Due.feed(x, "ab");
         due.is("change(3)", x.change(3), EvenBreaks.UNKNOWN);
@@ -45,7 +46,7 @@ public final class DeedsTest {
         due.is("NOT is no fault", x.fault(), EvenBreaks.NONE);
         Due.feed(x, "a b c abcdefghijklm");
         due.is("a fault goes ahead of NOT", x.change(0), -12);
-        due.isText("refused", x, "one will three");
+        due.isText("refused", x, "one willow three");
         due.is("deeds", x.told(18), 2);
     }
 
@@ -55,6 +56,7 @@ public final class DeedsTest {
         due.is("insert(1) into none", x.insert(1), EvenBreaks.UNKNOWN);
         due.is("what is typed stays", x.told(5), 1);
         due.is("insert(0) into none", x.insert(0), 2);
+        due.is("its total", x.told(6), 28 * 28);
         Due.feed(x, "am");
         due.is("ahead", x.insert(0), 5);
         Due.feed(x, "til");
@@ -95,6 +97,7 @@ public final class DeedsTest {
         due.is("take(-1)", x.take(-1), EvenBreaks.UNKNOWN);
         due.is("take(1)", x.take(1), 2);
         due.isText("taken", x, "am b");
+        due.is("total of 5 and 2", x.told(6), 22 * 22);
         due.is("take(1) again", x.take(1), 2);
         due.is("take(0)", x.take(0), 5);
         due.is("none left", x.told(0), 0);

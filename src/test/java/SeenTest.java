@@ -2,6 +2,7 @@ import java.util.ArrayList;
 import java.util.HashSet;
 import java.util.List;
 import java.util.Set;
+import java.util.function.Supplier;
 
 /** Promises 23 to 25: what is seen of an unknown measure, the end to look at, the book, and both torn. */
 public final class SeenTest {
@@ -11,6 +12,7 @@ public final class SeenTest {
         see();
         seenBehindDeeds();
         look();
+        edges();
         noWords();
         write();
         wrongBehindDeeds();
@@ -91,7 +93,8 @@ public final class SeenTest {
         due.is("one END parts them", x.told(15), 1);
         x.seed(5);
         x.drift(11);
-        List<Set<Integer>> begins = beginsByMeasure(Due.text(x));
+        String text = Due.text(x);
+        List<Set<Integer>> begins = beginsByMeasure(() -> Due.typed(text));
         for (boolean is : new boolean[] {false, true, false, true, true}) {
             int at = lookByDefinition(begins, x.told(0));
             due.is("look among " + begins.size(), x.told(15), at);
@@ -104,10 +107,10 @@ public final class SeenTest {
     }
 
     /** Where lines begin, for each measure from 1 on. */
-    private static List<Set<Integer>> beginsByMeasure(String text) {
+    private static List<Set<Integer>> beginsByMeasure(Supplier<EvenBreaks> maker) {
         List<Set<Integer>> all = new ArrayList<>();
         for (int m = 1; m <= 200; m++) {
-            EvenBreaks y = Due.typed(text);
+            EvenBreaks y = maker.get();
             y.measure(m);
             Set<Integer> begins = new HashSet<>();
             for (int k = 0; k < y.told(7); k++) {
@@ -132,6 +135,39 @@ public final class SeenTest {
             }
         }
         return at;
+    }
+
+    private static void edges() {
+        // One line costs 4 and two nothing by 1, but 1 and 2 by 2.
+        EvenBreaks x = Due.typed("f f");
+        x.see(1, true);
+        due.is("1 alone fits", x.told(12), 1);
+        due.is("it is the least", x.told(13), 1);
+        due.is("and the greatest", x.told(14), 1);
+        List<Set<Integer>> begins = beginsByMeasure(SeenTest::drawn);
+        EvenBreaks y = drawn();
+        int[] unbroken = {22, 20, 14, 8};
+        for (int e : unbroken) {
+            y.see(e, false);
+        }
+        for (int m = 1; m <= 200; m++) {
+            boolean fits = true;
+            for (int e : unbroken) {
+                fits = fits && !begins.get(m - 1).contains(e);
+            }
+            due.is(m + " fits", fits ? 1 : 0, m == 200 ? 1 : 0);
+        }
+        due.is("200 alone fits", y.told(12), 1);
+        due.is("200 is the least", y.told(13), 200);
+        due.is("200 is the greatest", y.told(14), 200);
+    }
+
+    private static EvenBreaks drawn() {
+        EvenBreaks y = new EvenBreaks();
+        y.seed(1655);
+        y.drift(16);
+        y.drift(16);
+        return y;
     }
 
     private static void noWords() {

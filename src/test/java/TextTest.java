@@ -147,6 +147,11 @@ public final class TextTest {
         due.is("one line", x.told(7), 1);
         due.is("both on a line cost most from 8 on", x.word(0, 3), 8);
         due.is("so does the other", x.word(1, 3), 8);
+        // Together (14 - d) squared, apart 21 squared and (21 - d) squared: like by 49.
+        x.measure(27);
+        due.is("50 are just enough", x.word(0, 3), 50);
+        x.measure(28);
+        due.is("51 are too many", x.word(0, 3), EvenBreaks.NONE);
         EvenBreaks alone = Due.typed("aaa");
         due.is("one word is always one line", alone.word(0, 3), EvenBreaks.NONE);
         // Law 1, measure 200: d too many cost d, apart they cost 194 and 194 - d at least.
@@ -217,6 +222,7 @@ public final class TextTest {
         };
         for (int law = 0; law <= 4; law++) {
             for (int i = 0; i < measures.length; i++) {
+                x.rule(4 - law);
                 x.rule(law);
                 due.is("law " + law + " measure " + measures[i], x.measure(measures[i]), want[law][i]);
             }
@@ -250,6 +256,11 @@ public final class TextTest {
         x.type();
         due.is("two lines again", x.told(7), 2);
         due.is("none below", x.told(10), 0);
+        Due.feed(x, "aaa bbb c");
+        x.type();
+        x.measure(9);
+        due.is("a short line above", x.line(0, 2), 6);
+        due.is("its end is no gap", x.told(10), 0);
         Due.feed(x, "a b c d e f g h i");
         x.type();
         x.measure(8);
