@@ -142,15 +142,24 @@ public final class DeedsTest {
         due.is("drift(16)", x.drift(16), 17);
         x.drift(16);
         due.is("drift to 40", x.drift(7), 40);
-        String before = Due.text(x);
         due.is("drift when full", x.drift(1), 40);
-        String[] was = before.split(" ");
-        String[] is = Due.text(x).split(" ");
+        String[] was = filled(0).split(" ");
+        String[] is = filled(1).split(" ");
         int changed = 0;
         for (int w = 0; w < 40; w++) {
             changed += was[w].equals(is[w]) ? 0 : 1;
         }
         due.is("one word became another", changed, 1);
+    }
+
+    /** The words of an object of its own, as each letter takes a call. */
+    private static String filled(int more) {
+        EvenBreaks x = new EvenBreaks();
+        x.seed(7);
+        x.drift(16);
+        x.drift(16);
+        x.drift(8 + more);
+        return Due.text(x);
     }
 
     private static void undo() {

@@ -1,3 +1,5 @@
+import java.util.List;
+
 /** Counts and prints the answers that are not as due. */
 final class Due {
     private final String test;
@@ -13,6 +15,38 @@ final class Due {
         if (got != want) {
             wrong++;
             System.out.println(test + ": " + what + " answered " + got + ", due is " + want);
+        }
+    }
+
+    /** Makes calls one behind the other: a call, the answer that is due, a call, an answer, and so on. */
+    void row(Run run, Object... callsAndAnswers) {
+        for (int i = 0; i + 1 < callsAndAnswers.length; i += 2) {
+            String call = (String) callsAndAnswers[i];
+            Object answer = callsAndAnswers[i + 1];
+            int want = answer instanceof Character letter ? letter : (Integer) answer;
+            is(call + " (call " + (i / 2 + 1) + " of its row)", run.call(call), want);
+        }
+    }
+
+    /** Two lists of questions with their answers are the same. */
+    void same(String what, List<String> got, List<String> want) {
+        checks++;
+        for (int i = 0; i < Math.max(got.size(), want.size()); i++) {
+            String one = i < got.size() ? got.get(i) : "nothing";
+            String other = i < want.size() ? want.get(i) : "nothing";
+            if (!one.equals(other)) {
+                wrong++;
+                System.out.println(test + ": " + what + ": " + one + ", due is " + other);
+                return;
+            }
+        }
+    }
+
+    void isText(String what, String got, String want) {
+        checks++;
+        if (!got.equals(want)) {
+            wrong++;
+            System.out.println(test + ": " + what + " has the text '" + got + "', due is '" + want + "'");
         }
     }
 
@@ -40,8 +74,9 @@ final class Due {
 
     static String spelled(EvenBreaks x, int w) {
         StringBuilder letters = new StringBuilder();
-        for (int what = 4; what <= 15 && x.word(w, what) != EvenBreaks.NONE; what++) {
-            letters.append((char) x.word(w, what));
+        int length = x.word(w, 1);
+        for (int at = 0; at < length; at++) {
+            letters.append((char) x.word(w, 4 + at));
         }
         return letters.toString();
     }
@@ -56,11 +91,6 @@ final class Due {
     }
 
     void isText(String what, EvenBreaks x, String want) {
-        checks++;
-        String got = text(x);
-        if (!got.equals(want)) {
-            wrong++;
-            System.out.println(test + ": " + what + " has the text '" + got + "', due is '" + want + "'");
-        }
+        isText(what, text(x), want);
     }
 }

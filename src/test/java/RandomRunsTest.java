@@ -1,3 +1,5 @@
+import java.util.ArrayList;
+import java.util.List;
 import java.util.Random;
 
 /** Random runs of 512 calls, right and wrong ones, each answer compared with the plain model's. */
@@ -15,43 +17,61 @@ public final class RandomRunsTest {
         -1, -2, 41, 256, 1000, Integer.MAX_VALUE, Integer.MIN_VALUE, Integer.MAX_VALUE - 1, Integer.MIN_VALUE + 1};
 
     private final Random random;
-    private final EvenBreaks x = new EvenBreaks();
+    private final boolean atEdges;
+    private final Run run = new Run();
     private final PlainModel model = new PlainModel();
 
-    private RandomRunsTest(long seed) {
-        random = new Random(seed);
+    private RandomRunsTest(int number) {
+        random = new Random(number);
+        atEdges = number % 2 == 0;
     }
 
     public static void main(String[] args) {
-        int runs = args.length > 0 ? Integer.parseInt(args[0]) : 150;
+        int runs = args.length > 0 ? Integer.parseInt(args[0]) : 200;
         int start = args.length > 1 ? Integer.parseInt(args[1]) : 1;
         Due due = new Due("RandomRunsTest");
-        for (int run = start; run < start + runs; run++) {
-            new RandomRunsTest(run).run(due, run);
+        for (int number = start; number < start + runs; number++) {
+            new RandomRunsTest(number).go(due, number);
         }
         due.close();
     }
 
-    private void run(Due due, int run) {
-        int first = run % 3 == 0 ? startFull(due, run) : 0;
-        for (int i = first; i < 512; i++) {
+    private void go(Due due, int number) {
+        List<String> begin = number % 3 == 0 ? manyWords(number) : number % 5 == 0 ? nearlyFull(number) : List.of();
+        for (String call : begin) {
+            String[] parts = (call + " 0 0").split(" ");
+            both(due, number, parts[0], Integer.parseInt(parts[1]), Integer.parseInt(parts[2]), 0);
+        }
+        while (run.callsLeft() > 0) {
             String name = pick();
-            int a = number(name, 0);
-            int b = number(name, 1);
-            int c = random.nextInt(2);
-            String told = "run " + run + " call " + i + ": " + name + "(" + a + ", " + b + ", " + c + ")";
-            due.is(told, call(name, a, b, c), model.call(name, a, b, c));
+            both(due, number, name, argument(name, 0), argument(name, 1), argument(name, 2));
         }
     }
 
-    /** Long texts are rare where letters alone make them, so some runs begin with many words. */
-    private int startFull(Due due, int run) {
-        due.is("run " + run + " seed", call("seed", run, 0, 0), model.call("seed", run, 0, 0));
-        for (int i = 1; i <= 3; i++) {
-            int n = 16 - run % 5;
-            due.is("run " + run + " drift " + i, call("drift", n, 0, 0), model.call("drift", n, 0, 0));
+    private void both(Due due, int number, String name, int a, int b, int c) {
+        String told = "run " + number + ", " + run.callsLeft() + " calls left: " + name + "(" + a + ", " + b + ", " + c + ")";
+        due.is(told, run.call(name, a, b, c), model.call(name, a, b, c));
+    }
+
+    /** Long texts are rare where letters alone make them. */
+    private static List<String> manyWords(int number) {
+        String drift = "drift " + (16 - number % 5);
+        return List.of("seed " + number, drift, drift, drift);
+    }
+
+    /** 39 words, 19 entries, 5 that are seen, and of the letters nearly as many as there may be. */
+    private static List<String> nearlyFull(int number) {
+        List<String> calls = new ArrayList<>(List.of("seed " + number, "drift 16", "drift 16", "drift 7"));
+        for (int i = 0; i < 19; i++) {
+            calls.add("write " + i + " " + (i == 0 ? 0 : -1));
         }
-        return 4;
+        for (int i = 0; i < 5; i++) {
+            calls.add("see 0 1");
+        }
+        for (int i = 0; i < 230; i++) {
+            calls.add("feed 32");
+        }
+        return calls;
     }
 
     private String pick() {
@@ -68,71 +88,64 @@ public final class RandomRunsTest {
         return NAMES[at];
     }
 
-    private int number(String name, int place) {
+    private int told(int what) {
+        return model.call("told", what, 0, 0);
+    }
+
+    private int argument(String name, int place) {
         if (random.nextInt(25) == 0) {
             return EXTREMES[random.nextInt(EXTREMES.length)];
         }
-        int words = x.told(0);
+        int words = told(0);
         switch (name) {
             case "feed": return letter();
-            case "told": return random.nextInt(19);
-            case "word": return place == 0 ? random.nextInt(words + 1) : random.nextInt(3) == 0 ? 3 : random.nextInt(16);
-            case "end": return place == 0 ? random.nextInt(words + 1) : random.nextInt(3);
-            case "line": return place == 0 ? random.nextInt(x.told(7) + 1) : random.nextInt(4);
+            case "told": return between(0, 18);
+            case "word": return place == 0 ? between(0, words - 1) : random.nextInt(3) == 0 ? 3 : between(0, 15);
+            case "end": return place == 0 ? between(0, words) : between(0, 2);
+            case "line": return place == 0 ? between(0, told(7) - 1) : between(0, 3);
             case "change":
+            case "take": return between(0, words - 1);
             case "insert":
-            case "take":
             case "cost":
-            case "known": return random.nextInt(words + 1);
-            case "see": return place == 0 ? random.nextInt(words + 1) : random.nextInt(2);
-            case "write": return place == 0 ? random.nextInt(5) : Math.max(x.line(random.nextInt(5), 0), -1);
-            case "measure": return 1 + random.nextInt(random.nextInt(3) == 0 ? 200 : 60);
-            case "best": return 1 + random.nextInt(200);
-            case "rule": return random.nextInt(5);
-            case "fee": return random.nextInt(100);
-            case "drift": return 1 + random.nextInt(6);
-            case "undo": return 1 + random.nextInt(random.nextInt(4) == 0 ? 16 : 4);
-            case "with": return 1 + random.nextInt(Math.max(1, Math.min(40, words + 2)));
-            case "seed": return random.nextInt(Integer.MAX_VALUE);
-            default: return random.nextInt(2);
+            case "known": return between(0, words);
+            case "see": return place == 0 ? between(0, words) : random.nextInt(2);
+            case "write": return place == 0 ? entryLine() : entryEnd(words);
+            case "measure": return random.nextInt(3) == 0 ? between(1, 200) : 1 + random.nextInt(60);
+            case "best": return place == 2 ? between(0, 1) : between(1, 200);
+            case "rule": return between(0, 4);
+            case "fee": return between(0, 99);
+            case "drift": return random.nextInt(3) == 0 ? between(1, 16) : 1 + random.nextInt(4);
+            case "undo": return random.nextInt(3) == 0 ? between(1, 16) : between(1, told(18));
+            case "with": return random.nextInt(2) == 0 ? between(1, 40) : between(1, words);
+            case "seed": return between(0, Integer.MAX_VALUE);
+            default: return between(0, 1);
         }
+    }
+
+    /** One of the numbers, and at times one past them; runs at the edges take the first, the last and their neighbours often. */
+    private int between(int first, int last) {
+        if (random.nextInt(atEdges ? 2 : 12) == 0) {
+            return new int[] {first - 1, first, last, last + 1}[random.nextInt(4)];
+        }
+        return last < first ? first : (int) (first + (long) (random.nextDouble() * ((long) last - first + 1)));
+    }
+
+    private int entryLine() {
+        return random.nextInt(4) == 0 ? between(0, 39) : random.nextInt(5);
+    }
+
+    private int entryEnd(int words) {
+        return random.nextInt(4) == 0 ? between(0, words) : Math.max(model.call("line", random.nextInt(5), 0, 0), -1);
     }
 
     private int letter() {
         int kind = random.nextInt(40);
-        return kind == 0 ? random.nextInt(256) : kind < 8 ? ' ' : 'a' + random.nextInt(26);
-    }
-
-    private int call(String name, int a, int b, int c) {
-        switch (name) {
-            case "feed": return x.feed(a);
-            case "type": return x.type();
-            case "fault": return x.fault();
-            case "told": return x.told(a);
-            case "word": return x.word(a, b);
-            case "end": return x.end(a, b);
-            case "line": return x.line(a, b);
-            case "change": return x.change(a);
-            case "insert": return x.insert(a);
-            case "take": return x.take(a);
-            case "measure": return x.measure(a);
-            case "rule": return x.rule(a);
-            case "fee": return x.fee(a);
-            case "free": return x.free(a == 1);
-            case "drift": return x.drift(a);
-            case "undo": return x.undo(a);
-            case "cost": return x.cost(a, b);
-            case "first": return x.first(a);
-            case "known": return x.known(a, b);
-            case "with": return x.with(a);
-            case "best": return x.best(a, b, c);
-            case "see": return x.see(a, b == 1);
-            case "write": return x.write(a, b);
-            case "tear": return x.tear();
-            case "seed": return x.seed(a);
-            case "keep": return x.keep(a);
-            case "goBack": return x.goBack(a);
-            default: throw new IllegalArgumentException(name);
+        if (kind == 0) {
+            return between(0, 255);
         }
+        if (kind == 1 && atEdges) {
+            return new int[] {31, 33, 96, 97, 122, 123}[random.nextInt(6)];
+        }
+        return kind < 8 ? ' ' : 'a' + random.nextInt(26);
     }
 }
