@@ -18,6 +18,8 @@ public final class EvenBreaks {
     private static final int FIGURE = 41;
     private static final int BLANK = 32;
     private static final int FAULT_BASE = -10;
+    /** More than any lines can cost together: what is least is looked for from here down. */
+    private static final int ABOVE_ALL = 2147483647;
 
     private final Text text = new Text();
     private final Typed typed = new Typed();
@@ -698,7 +700,7 @@ public final class EvenBreaks {
          * is, so the first such line that alone costs more than the least so far ends the search.
          */
         private void settle(int e) {
-            int least = Integer.MAX_VALUE;
+            int least = ABOVE_ALL;
             int from = NONE;
             for (int i = e - 1; i >= 0; i--) {
                 int slack = measure - widthOf(i, e);
@@ -756,7 +758,7 @@ public final class EvenBreaks {
         }
 
         int ownerKnownTo(int e, int t) {
-            int least = Integer.MAX_VALUE;
+            int least = ABOVE_ALL;
             int from = NONE;
             for (int i = 0; i <= t; i++) {
                 int sum = total[i] + price(i, e);
@@ -796,7 +798,7 @@ public final class EvenBreaks {
         }
 
         private int leastWithOneMore(int e, int lowest) {
-            int least = Integer.MAX_VALUE;
+            int least = ABOVE_ALL;
             int highest = lowest == 0 ? 0 : e - 1;
             for (int i = lowest; i <= highest; i++) {
                 least = Math.min(least, row[i] + price(i, e));

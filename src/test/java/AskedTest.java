@@ -54,18 +54,31 @@ public final class AskedTest {
             x.rule(run % 5);
             x.free(run % 2 == 0);
             x.measure(10 + run * 3 % 90);
-            due.is("first even of run " + run, x.first(0), firstByDefinition(x, 1));
-            due.is("first odd of run " + run, x.first(1), firstByDefinition(x, -1));
+            int[][] costs = costs(x);
+            due.is("first even of run " + run, x.first(0), firstByDefinition(costs, 1));
+            due.is("first odd of run " + run, x.first(1), firstByDefinition(costs, -1));
         }
     }
 
-    private static int firstByDefinition(EvenBreaks x, int sign) {
+    /** What every line costs, asked once: behind its 512th call nothing is promised of an object. */
+    private static int[][] costs(EvenBreaks x) {
         int last = x.told(0);
+        int[][] costs = new int[last + 1][last + 1];
+        for (int i = 0; i < last; i++) {
+            for (int j = i + 1; j <= last; j++) {
+                costs[i][j] = x.cost(i, j);
+            }
+        }
+        return costs;
+    }
+
+    private static int firstByDefinition(int[][] costs, int sign) {
+        int last = costs.length - 1;
         for (int i = 0; i <= last; i++) {
             for (int k = i + 1; k <= last; k++) {
                 for (int j = k + 1; j <= last; j++) {
                     for (int l = j + 1; l <= last; l++) {
-                        int apart = x.cost(i, j) + x.cost(k, l) - x.cost(i, l) - x.cost(k, j);
+                        int apart = costs[i][j] + costs[k][l] - costs[i][l] - costs[k][j];
                         if (apart * sign > 0) {
                             return (((i + 1) * 41 + k + 1) * 41 + j + 1) * 41 + l + 1;
                         }
@@ -116,11 +129,12 @@ public final class AskedTest {
             x.fee(run % 7);
             x.free(run % 3 == 0);
             x.measure(1 + run * 7 % 120);
+            int[][] costs = costs(x);
             long[] least = new long[words + 1];
             java.util.Arrays.fill(least, Long.MAX_VALUE);
             for (int breaks = 0; breaks < 1 << (words - 1); breaks++) {
                 int lines = Integer.bitCount(breaks) + 1;
-                least[lines] = Math.min(least[lines], costOfBreaks(x, breaks, words));
+                least[lines] = Math.min(least[lines], costOfBreaks(costs, breaks));
             }
             long total = Long.MAX_VALUE;
             for (int k = 1; k <= words; k++) {
@@ -131,12 +145,13 @@ public final class AskedTest {
         }
     }
 
-    private static long costOfBreaks(EvenBreaks x, int breaks, int words) {
+    private static long costOfBreaks(int[][] costs, int breaks) {
+        int words = costs.length - 1;
         long sum = 0;
         int from = 0;
         for (int e = 1; e <= words; e++) {
             if (e == words || (breaks >> (e - 1) & 1) == 1) {
-                sum += x.cost(from, e);
+                sum += costs[from][e];
                 from = e;
             }
         }

@@ -18,6 +18,8 @@ public final class LanguageTest {
         signs(source);
         face();
         names(code);
+        library(code);
+        methodLengths(code);
         due.close();
     }
 
@@ -47,6 +49,11 @@ public final class LanguageTest {
             due.is(method.getName() + " is public or private", Modifier.isPublic(is) || Modifier.isPrivate(is) ? 1 : 0, 1);
         }
         due.is("public methods", methods.size(), 28 - 1);
+        for (var method : EvenBreaks.class.getDeclaredMethods()) {
+            boolean isHidden = Modifier.isPrivate(method.getModifiers());
+            due.is(method.getName() + " is private and has a public one's name", isHidden && methods.contains(method.getName()) ? 1 : 0, 0);
+            due.is(method.getName() + " takes at most seven", method.getParameterCount() <= 7 ? 1 : 0, 1);
+        }
         for (var field : EvenBreaks.class.getDeclaredFields()) {
             int is = field.getModifiers();
             due.is(field.getName() + " is public or private", Modifier.isPublic(is) || Modifier.isPrivate(is) ? 1 : 0, 1);
@@ -72,5 +79,28 @@ public final class LanguageTest {
     private static void names(String code) {
         due.is("statics that are not final", Pattern.compile("static (?!final|class)[\\w\\[\\]]+ \\w+ *[=;]").matcher(code).find() ? 1 : 0, 0);
         due.is("static blocks", Pattern.compile("static *\\{").matcher(code).find() ? 1 : 0, 0);
+    }
+
+    /** Rule 4: of the library the class uses these alone, and would use others of the list only behind a look at it. */
+    private static void library(String code) {
+        Set<String> used = new TreeSet<>();
+        Matcher found = Pattern.compile("\\b(Math|System|Integer|Long|Arrays|String|StringBuilder|List|ArrayList|Character|Boolean)\\b(\\.\\w+)?").matcher(code);
+        while (found.find()) {
+            used.add(found.group());
+        }
+        used.removeAll(Set.of("Math.min", "Math.max", "System.arraycopy"));
+        due.isText("what else is used of the library", used.toString(), "[]");
+    }
+
+    /** Rule 11: "Methods stay short (some sixty lines)". A method's last line is a brace as far in as its first. */
+    private static void methodLengths(String code) {
+        Matcher method = Pattern.compile("(?ms)^( +)(?:public |private |static |final )*[\\w\\[\\]]+ ?\\w*\\([^)]*\\) \\{\\n(.*?)^\\1\\}").matcher(code);
+        int methods = 0;
+        while (method.find()) {
+            methods++;
+            due.is("a method of at most sixty lines: " + method.group().strip().lines().findFirst().orElse(""),
+                method.group().lines().count() <= 60 ? 1 : 0, 1);
+        }
+        due.is("methods are found", methods > 80 ? 1 : 0, 1);
     }
 }
